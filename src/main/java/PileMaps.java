@@ -439,7 +439,7 @@ public final class PileMaps {
         for (int map = 0; map < MAPS; map++) {
             for (int other = 0; other < map; other++) {
                 boolean bothAsked = (maps >> map & 1) == 1 && (maps >> other & 1) == 1;
-                int keys = bothAsked ? differ(map, other) : 0;
+                int keys = bothAsked ? Row.difference(now.piles[map].values, now.piles[other].values) : 0;
                 if (keys > 0 && pairs < MAP_PAIRS) {
                     differences[pairs] = keys;
                     pairs++;
@@ -489,7 +489,7 @@ public final class PileMaps {
 
         /** The value of a key; a hole leads to a hole. */
         static int step(int[] values, int key) {
-            return isKey(key) ? values[key] : HOLE;
+            return key >= 0 && key < KEYS ? values[key] : HOLE;
         }
 
         static int walk(int[] values, int key, int steps) {
@@ -1055,7 +1055,7 @@ public final class PileMaps {
 
         /** Takes one sign from the first to the last one; returns its distance to the first one, or NOBODY. */
         private int takeBetween(char first, char last) {
-            if (isAtEnd() || signs[at] < first || signs[at] > last) {
+            if (at < 0 || at >= length || at >= SIGNS || signs[at] < first || signs[at] > last) {
                 return NOBODY;
             }
             int distance = signs[at] - first;
@@ -1073,7 +1073,7 @@ public final class PileMaps {
 
         /** Only behind a 1 can a second digit stand, and it is at most 5. */
         int takeKey() {
-            int digit = takeDigit();
+            int digit = takeBetween('0', '9');
             if (digit != 1) {
                 return digit;
             }
@@ -1106,8 +1106,8 @@ public final class PileMaps {
 
         private final Text text;
         private final State state;
-        /** Two rows for each number of open brackets: the right sides of "/" and of ".". */
-        private final int[][] rightSides;
+        /** Two rows for each number of open brackets: of a term and of a factor. */
+        private final int[][] rows;
         private final int[] work;
         final int[] result;
         int target;
@@ -1115,7 +1115,7 @@ public final class PileMaps {
         Reader(Text text, State state) {
             this.text = text;
             this.state = state;
-            rightSides = new int[2 * (BRACKETS + 1)][KEYS];
+            rows = new int[2 * (BRACKETS + 1)][KEYS];
             work = new int[KEYS];
             result = new int[KEYS];
             target = NOBODY;
@@ -1158,30 +1158,28 @@ public final class PileMaps {
             return whole ? NO_FAULT : text.at;
         }
 
+        /** Terms with "/" between two, each of factors with "." between two. */
         private boolean readExpression(int[] into, int open) {
-            if (open < 0 || open > BRACKETS || !readTerm(into, open)) {
+            if (open < 0 || open > BRACKETS) {
                 return false;
             }
-            int[] right = rightSides[2 * open];
-            for (int i = 0; i < SIGNS && text.take('/'); i++) {
-                if (!readTerm(right, open)) {
+            int[] term = rows[2 * open];
+            int[] factor = rows[2 * open + 1];
+            Arrays.fill(into, HOLE);
+            for (int terms = 0; terms < SIGNS; terms++) {
+                if (!readFactor(term, open)) {
                     return false;
                 }
-                Row.overlay(into, right);
-            }
-            return true;
-        }
-
-        private boolean readTerm(int[] into, int open) {
-            if (open < 0 || open > BRACKETS || !readFactor(into, open)) {
-                return false;
-            }
-            int[] right = rightSides[2 * open + 1];
-            for (int i = 0; i < SIGNS && text.take('.'); i++) {
-                if (!readFactor(right, open)) {
-                    return false;
+                for (int factors = 0; factors < SIGNS && text.take('.'); factors++) {
+                    if (!readFactor(factor, open)) {
+                        return false;
+                    }
+                    Row.compose(term, factor);
                 }
-                Row.compose(into, right);
+                Row.overlay(into, term);
+                if (!text.take('/')) {
+                    return true;
+                }
             }
             return true;
         }
