@@ -36,7 +36,6 @@ public final class PileMaps {
     private final State now;
     private final State[] past;
     private final State kept;
-    private final Text text;
     private final Reader reader;
     private final int[] differences;
     private int pastCount;
@@ -49,8 +48,7 @@ public final class PileMaps {
             past[i] = new State();
         }
         kept = new State();
-        text = new Text();
-        reader = new Reader(text, now);
+        reader = new Reader();
         differences = new int[MAP_PAIRS];
         pastCount = 0;
         hasKept = false;
@@ -147,7 +145,7 @@ public final class PileMaps {
     }
 
     public int assign() {
-        int fault = reader.readAssignment();
+        int fault = reader.readAssignment(now);
         if (fault != NO_FAULT) {
             return FAULT_BASE - fault;
         }
@@ -200,12 +198,12 @@ public final class PileMaps {
     // ---- texts
 
     public int type(char character) {
-        return text.add(character) ? text.length : FULL;
+        return reader.text.add(character) ? reader.text.length : FULL;
     }
 
     public int clearText() {
-        int before = text.length;
-        text.length = 0;
+        int before = reader.text.length;
+        reader.text.length = 0;
         return before;
     }
 
@@ -319,7 +317,7 @@ public final class PileMaps {
         if (!isKey(key)) {
             return UNKNOWN;
         }
-        int fault = reader.readAssignment();
+        int fault = reader.readAssignment(now);
         if (fault != NO_FAULT) {
             return FAULT_BASE - fault;
         }
@@ -384,7 +382,7 @@ public final class PileMaps {
             case 3: return now.shadowedOfAll();
             case 4: return now.repeatedMaps();
             case 5: return pastCount;
-            case 6: return text.length;
+            case 6: return reader.text.length;
             default: return BAD_VALUE;
         }
     }
@@ -1101,20 +1099,18 @@ public final class PileMaps {
         }
     }
 
-    /** Reads the text as a layer or as an expression, and works out on the way what it gives. */
+    /** Has the text, reads it as a layer or as an expression, and works out on the way what it gives. */
     private static final class Reader {
 
-        private final Text text;
-        private final State state;
+        final Text text;
         /** Two rows for each number of open brackets: of a term and of a factor. */
         private final int[][] rows;
         private final int[] work;
         final int[] result;
         int target;
 
-        Reader(Text text, State state) {
-            this.text = text;
-            this.state = state;
+        Reader() {
+            text = new Text();
             rows = new int[2 * (BRACKETS + 1)][KEYS];
             work = new int[KEYS];
             result = new int[KEYS];
@@ -1151,15 +1147,17 @@ public final class PileMaps {
             return true;
         }
 
-        int readAssignment() {
+        int readAssignment(State state) {
             text.at = 0;
             target = text.takeMap();
-            boolean whole = target != NOBODY && text.take('=') && readExpression(result, 0) && text.isAtEnd();
-            return whole ? NO_FAULT : text.at;
+            if (target == NOBODY || !text.take('=') || !readExpression(state, result, 0)) {
+                return text.at;
+            }
+            return text.isAtEnd() ? NO_FAULT : text.at;
         }
 
         /** Terms with "/" between two, each of factors with "." between two. */
-        private boolean readExpression(int[] into, int open) {
+        private boolean readExpression(State state, int[] into, int open) {
             if (open < 0 || open > BRACKETS) {
                 return false;
             }
@@ -1167,11 +1165,11 @@ public final class PileMaps {
             int[] factor = rows[2 * open + 1];
             Arrays.fill(into, HOLE);
             for (int terms = 0; terms < SIGNS; terms++) {
-                if (!readFactor(term, open)) {
+                if (!readFactor(state, term, open)) {
                     return false;
                 }
                 for (int factors = 0; factors < SIGNS && text.take('.'); factors++) {
-                    if (!readFactor(factor, open)) {
+                    if (!readFactor(state, factor, open)) {
                         return false;
                     }
                     Row.compose(term, factor);
@@ -1184,22 +1182,22 @@ public final class PileMaps {
             return true;
         }
 
-        private boolean readFactor(int[] into, int open) {
+        private boolean readFactor(State state, int[] into, int open) {
             int map = text.takeMap();
             if (isMap(map)) {
                 Row.copy(state.piles[map].values, into);
-                return readSigns(into);
+                return readSigns(state.rule, into);
             }
             if (open >= BRACKETS || !text.take('(')) {
                 return false;
             }
-            return readExpression(into, open + 1) && text.take(')') && readSigns(into);
+            return readExpression(state, into, open + 1) && text.take(')') && readSigns(state.rule, into);
         }
 
-        private boolean readSigns(int[] into) {
+        private boolean readSigns(int rule, int[] into) {
             for (int i = 0; i < SIGNS; i++) {
                 if (text.take('~')) {
-                    Row.inverse(into, state.rule, work);
+                    Row.inverse(into, rule, work);
                     Row.copy(work, into);
                 } else if (text.take('^')) {
                     int steps = text.takeDigit();

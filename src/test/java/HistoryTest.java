@@ -7,6 +7,7 @@ public final class HistoryTest {
         atMostFour();
         everyAct();
         notTheText();
+        whatWasKnown();
         keep();
         restore();
         snapshotStays();
@@ -124,6 +125,28 @@ public final class HistoryTest {
         Check.due("restore leaves the text", x.count(6), 5);
         x.push(0);
         Check.due("restore leaves the text", x.get(0, 12), 12);
+    }
+
+    private static void whatWasKnown() {
+        PileMaps x = new PileMaps();
+        for (int map = 0; map < 6; map++) {
+            Check.push(x, map, "15>" + map);
+        }
+        x.hide(0, 63);
+        x.keep();
+        for (int map = 0; map < 6; map++) {
+            x.pop(map);
+        }
+        x.hide(0, 63);
+        Check.due("all the same", x.hidden(2), 1);
+        x.undo();
+        Check.due("undo brings back what was known", x.hidden(2), 0);
+        Check.due("undo brings back what was known", x.split(15, 0), 6);
+        x.hide(5, 63);
+        x.restore();
+        Check.due("restore brings back what was known", x.split(15, 0), 6);
+        Check.due("restore brings back what was known", x.ask(15), 0);
+        Check.due("restore brings back what was known", x.hidden(0), 1);
     }
 
     private static void keep() {

@@ -211,6 +211,12 @@ public final class TextsTest {
         values("power", x, "A=A^9", 6, 6);
         values("power of a power", x, "A=A^2^2", 0, 4, 6, 6);
         values("power of nothing", x, "A=A{0}^0^9", same);
+        PileMaps y = new PileMaps();
+        Check.push(y, 0, "14>15,15>0,0>14");
+        values("power at the last key", y, "A=A^2", 14, 0, 15, 14, 0, 15);
+        values("inverse at the last key", y, "A=A~", 15, 14, 0, 15, 14, 0);
+        values("dot at the last key", y, "A=A.A{15,0}", 14, 0, 15, 14);
+        values("restrict at the last key", y, "A=A{14}", 14, 15);
         values("power of a cycle", cycle(), "A=A^9", 0, 1, 1, 2, 2, 3, 3, 0);
         values("power of a cycle", cycle(), "A=A^8", 0, 0, 1, 1, 2, 2, 3, 3);
     }

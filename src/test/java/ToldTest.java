@@ -8,6 +8,7 @@ public final class ToldTest {
         getAndTells();
         mapBasics();
         mapCycles();
+        fullPile();
         layerTold();
         entry();
         follow();
@@ -116,6 +117,28 @@ public final class ToldTest {
         x.setEntry(1, 0, 14, 15);
         x.setEntry(1, 0, 15, 0);
         return x;
+    }
+
+    private static void fullPile() {
+        PileMaps x = new PileMaps();
+        Check.write(x, "0>0,7>-,15>15");
+        for (int layers = 1; layers <= 4; layers++) {
+            x.push(5);
+            Check.due("map: layers", x.map(5, 0), layers);
+            Check.due("map: on", x.map(5, 1), layers);
+            Check.due("map: shadowed", x.map(5, 6), 3 * (layers - 1));
+            Check.due("count: layers", x.count(1), layers);
+            Check.due("count: entries", x.count(2), 3 * layers);
+            Check.due("count: shadowed", x.count(3), 3 * (layers - 1));
+            Check.due("tells", x.tells(5, 15), layers - 1);
+            Check.due("tells: also nowhere", x.tells(5, 7), layers - 1);
+        }
+        for (int layers = 3; layers >= 0; layers--) {
+            x.pop(5);
+            Check.due("map: on, of those that are left", x.map(5, 1), layers);
+            Check.due("count: entries, of those that are left", x.count(2), 3 * layers);
+            Check.due("tells, of those that are left", x.tells(5, 15), layers == 0 ? NONE : layers - 1);
+        }
     }
 
     private static void layerTold() {
