@@ -15,54 +15,35 @@ final class Check {
         due(what, got ? 1 : 0, 1);
     }
 
-    /** Puts a text in place of the one that was. */
-    static void write(PileMaps x, String text) {
-        x.clearText();
-        for (int i = 0; i < text.length(); i++) {
-            x.type(text.charAt(i));
-        }
+    /** The calls that are made more change nothing at all. */
+    static void nothingChanged(String what, Calls before, Calls more) {
+        due(what + ": nothing has changed", Whole.of(before).equals(Whole.of(before.then(more))));
     }
 
-    static int push(PileMaps x, int map, String layer) {
-        write(x, layer);
-        return x.push(map);
-    }
-
-    static int assign(PileMaps x, String assignment) {
-        write(x, assignment);
-        return x.assign();
-    }
-
-    static int gives(PileMaps x, String assignment, int key) {
-        write(x, assignment);
-        return x.gives(key);
-    }
-
-    /** All that can be told of the state, as text; the text itself and the history are told by their lengths. */
-    static String whole(PileMaps x) {
-        StringBuilder all = new StringBuilder();
-        for (int map = 0; map < 6; map++) {
-            for (int layer = 0; layer < x.map(map, 0); layer++) {
-                all.append(x.layer(map, layer, 1)).append(':');
-                for (int key = 0; key < 16; key++) {
-                    all.append(x.entry(map, layer, key)).append(' ');
-                }
-            }
-            for (int key = 0; key < 16; key++) {
-                all.append(x.get(map, key)).append(' ');
-            }
-            all.append('\n');
+    /** The expression gives these pairs of a key and a value and no others, and so it is assigned to map F. */
+    static void values(String what, Calls before, String text, int... pairs) {
+        int[] want = new int[16];
+        java.util.Arrays.fill(want, -5);
+        for (int i = 0; i < pairs.length; i += 2) {
+            want[pairs[i]] = pairs[i + 1];
         }
-        for (int what = 0; what < 7; what++) {
-            all.append(x.count(what)).append(' ');
-        }
-        for (int what = 0; what < 6; what++) {
-            all.append(x.hidden(what)).append(' ');
-        }
+        Run x = before.onNew();
+        x.write(text);
         for (int key = 0; key < 16; key++) {
-            all.append(x.split(key, 0)).append(' ').append(x.split(key, 1)).append(' ');
+            due(what + " " + text + ": " + key, x.gives(key), want[key]);
         }
-        return all.toString();
+        due(what + " " + text + ": assigned", x.assign("F" + text.substring(1)), pairs.length / 2);
+        for (int key = 0; key < 16; key++) {
+            due(what + " " + text + ": assigned " + key, x.get(5, key), want[key]);
+        }
+    }
+
+    static int asked() {
+        return asked;
+    }
+
+    static int wrong() {
+        return wrong;
     }
 
     static void end(String test) {

@@ -20,7 +20,7 @@ public final class HiddenMapTest {
     }
 
     private static void nothingHidden() {
-        PileMaps x = new PileMaps();
+        Run x = new Run();
         Check.due("ask: nothing hidden", x.ask(0), NOT_POSSIBLE);
         Check.due("ask: unknown first", x.ask(16), UNKNOWN);
         Check.due("ask: unknown first", x.ask(-1), UNKNOWN);
@@ -39,18 +39,22 @@ public final class HiddenMapTest {
     }
 
     /** A: 0>1, B: 0>2, C: 0>1 1>1, D: 1>1, E: nothing, F: 0>2 1>1. */
-    private static PileMaps filled() {
-        PileMaps x = new PileMaps();
-        Check.push(x, 0, "0>1");
-        Check.push(x, 1, "0>2");
-        Check.push(x, 2, "0>1,1>1");
-        Check.push(x, 3, "1>1");
-        Check.push(x, 5, "0>2,1>1");
+    private static void fill(Run x) {
+        x.push(0, "0>1");
+        x.push(1, "0>2");
+        x.push(2, "0>1,1>1");
+        x.push(3, "1>1");
+        x.push(5, "0>2,1>1");
+    }
+
+    private static Run filled() {
+        Run x = new Run();
+        fill(x);
         return x;
     }
 
     private static void hide() {
-        PileMaps x = new PileMaps();
+        Run x = new Run();
         Check.due("hide: least", x.hide(0, 1), 1);
         Check.due("hide: is an act", x.count(5), 1);
         Check.due("hide: suspects", x.hidden(0), 1);
@@ -69,9 +73,17 @@ public final class HiddenMapTest {
     }
 
     private static void hideErrors() {
-        PileMaps x = filled();
+        Calls hidden = HiddenMapTest::fillAndHide;
+        Check.nothingChanged("hide: errors", hidden, HiddenMapTest::hideWrongly);
+        Check.nothingChanged("ask: errors", hidden, HiddenMapTest::askWrongly);
+    }
+
+    private static void fillAndHide(Run x) {
+        fill(x);
         x.hide(1, 2);
-        String before = Check.whole(x);
+    }
+
+    private static void hideWrongly(Run x) {
         Check.due("hide: unknown", x.hide(6, 64), UNKNOWN);
         Check.due("hide: unknown", x.hide(-1, 63), UNKNOWN);
         Check.due("hide: no suspect", x.hide(0, 0), BAD_VALUE);
@@ -81,20 +93,21 @@ public final class HiddenMapTest {
         for (int map = 0; map < 6; map++) {
             Check.due("hide: not a suspect", x.hide(map, 63 - (1 << map)), BAD_VALUE);
         }
-        Check.due("hide: errors change nothing", before.equals(Check.whole(x)));
+    }
+
+    private static void askWrongly(Run x) {
         Check.due("ask: unknown", x.ask(16), UNKNOWN);
         Check.due("ask: unknown", x.ask(-1), UNKNOWN);
         Check.due("hidden: bad", x.hidden(6), BAD_VALUE);
         Check.due("hidden: bad", x.hidden(-1), BAD_VALUE);
-        Check.due("ask: errors change nothing", before.equals(Check.whole(x)));
     }
 
     private static void knownByItself() {
-        PileMaps x = filled();
+        Run x = filled();
         Check.due("hide", x.hide(2, 63), 6);
         x.turn(2, 0, false);
         x.pop(0);
-        Check.assign(x, "B=A^0");
+        x.assign("B=A^0");
         x.setRule(2);
         Check.due("split: as it was when hidden", x.split(0, 0), 3);
         Check.due("split: as it was when hidden", x.split(0, 1), 2);
@@ -105,7 +118,7 @@ public final class HiddenMapTest {
     }
 
     private static void ask() {
-        PileMaps x = filled();
+        Run x = filled();
         x.hide(4, 63);
         Check.due("ask: a hole", x.ask(0), 16);
         Check.due("ask: is an act", x.undo(), 3);
@@ -130,10 +143,10 @@ public final class HiddenMapTest {
     }
 
     private static void found() {
-        PileMaps x = new PileMaps();
-        Check.push(x, 0, "3>3");
-        Check.push(x, 1, "3>3,4>-");
-        Check.push(x, 2, "3>3,4>4");
+        Run x = new Run();
+        x.push(0, "3>3");
+        x.push(1, "3>3,4>-");
+        x.push(2, "3>3,4>4");
         x.hide(0, 3);
         Check.due("found: the same values, other entries", x.hidden(2), 1);
         Check.due("best key: none if found", x.hidden(3), NONE);
@@ -155,31 +168,31 @@ public final class HiddenMapTest {
     }
 
     private static void bestKey() {
-        PileMaps x = filled();
+        Run x = filled();
         x.hide(0, 63);
         Check.due("best: least greatest group", x.hidden(3), 0);
         Check.due("best: greatest group", x.hidden(4), 2);
         Check.due("best: groups", x.hidden(5), 3);
-        PileMaps y = new PileMaps();
-        Check.push(y, 0, "9>1,5>1,2>1,14>1");
-        Check.push(y, 1, "9>1,5>1,2>1,14>2");
-        Check.push(y, 2, "9>1,5>1,2>1,14>3");
-        Check.push(y, 3, "9>1,5>2,2>2,14>4");
-        Check.push(y, 4, "9>2,5>2,2>2,14>-");
-        Check.push(y, 5, "9>2,5>3,2>2,14>-");
+        Run y = new Run();
+        y.push(0, "9>1,5>1,2>1,14>1");
+        y.push(1, "9>1,5>1,2>1,14>2");
+        y.push(2, "9>1,5>1,2>1,14>3");
+        y.push(3, "9>1,5>2,2>2,14>4");
+        y.push(4, "9>2,5>2,2>2,14>-");
+        y.push(5, "9>2,5>3,2>2,14>-");
         y.hide(0, 63);
         Check.due("best: the last key but one", y.hidden(3), 14);
         Check.due("best: its greatest group", y.hidden(4), 2);
         Check.due("best: its groups", y.hidden(5), 5);
-        Check.assign(y, "A=A{9,5,2}");
-        Check.assign(y, "B=B{9,5,2}");
-        Check.assign(y, "C=C{9,5,2}");
-        Check.assign(y, "D=D{9,5,2}");
+        y.assign("A=A{9,5,2}");
+        y.assign("B=B{9,5,2}");
+        y.assign("C=C{9,5,2}");
+        y.assign("D=D{9,5,2}");
         y.hide(0, 63);
         Check.due("best: of several the one with most groups", y.hidden(3), 5);
         Check.due("best: its greatest group", y.hidden(4), 3);
         Check.due("best: its groups", y.hidden(5), 3);
-        Check.assign(y, "F=F{9,2}/F.D");
+        y.assign("F=F{9,2}/F.D");
         y.setEntry(5, 0, 5, 2);
         y.hide(0, 63);
         Check.due("best: of several the lowest", y.hidden(3), 2);
@@ -190,7 +203,7 @@ public final class HiddenMapTest {
     }
 
     private static void split() {
-        PileMaps x = filled();
+        Run x = filled();
         x.hide(5, 63);
         Check.due("split: groups", x.split(0, 0), 3);
         Check.due("split: greatest", x.split(0, 1), 2);
@@ -213,7 +226,7 @@ public final class HiddenMapTest {
     }
 
     private static void probes() {
-        PileMaps x = filled();
+        Run x = filled();
         Check.due("probes: none", x.probes(0), BAD_VALUE);
         Check.due("probes: too many", x.probes(64), BAD_VALUE);
         Check.due("probes: negative", x.probes(-1), BAD_VALUE);
@@ -227,42 +240,42 @@ public final class HiddenMapTest {
         Check.due("probes: A, B, E", x.probes(1 + 2 + 16), 1);
         Check.due("probes: A, B, C", x.probes(7), 3);
         Check.due("probes: no act", x.count(5), 4);
-        PileMaps y = new PileMaps();
+        Run y = new Run();
         Check.due("probes: all the same", y.probes(63), 0);
-        Check.push(y, 0, "15>0");
+        y.push(0, "15>0");
         Check.due("probes: the highest key", y.probes(63), 32768);
-        Check.push(y, 1, "14>3,3>-");
+        y.push(1, "14>3,3>-");
         Check.due("probes: two keys", y.probes(63), 32768 + 16384);
-        Check.push(y, 2, "13>3,12>3,15>0,14>3");
+        y.push(2, "13>3,12>3,15>0,14>3");
         Check.due("probes: two keys tell four", y.probes(63), 32768 + 16384);
-        Check.push(y, 3, "15>1,7>2");
+        y.push(3, "15>1,7>2");
         Check.due("probes: a value beside a value", y.probes(63), 32768 + 16384);
-        Check.push(y, 4, "15>1,7>3");
+        y.push(4, "15>1,7>3");
         Check.due("probes: three keys", y.probes(63), 32768 + 16384 + 128);
     }
 
     /** Maps that each differ from the empty one at one key need all these keys but none. */
     private static void probesNeedKeys() {
-        PileMaps x = new PileMaps();
+        Run x = new Run();
         int want = 0;
         int[] keys = {11, 4, 15, 8, 1};
         for (int map = 0; map < 5; map++) {
-            Check.push(x, map, keys[map] + ">" + keys[map]);
+            x.push(map, keys[map] + ">" + keys[map]);
             want |= 1 << keys[map];
             Check.due("probes: " + (map + 1) + " keys", x.probes(63), want);
         }
         Check.due("probes: without the empty map one key less, the greatest one", x.probes(31), want - 32768);
-        PileMaps y = new PileMaps();
-        Check.push(y, 0, "0>1,2>1");
-        Check.push(y, 1, "1>1,2>2");
-        Check.push(y, 2, "0>1,1>1,2>3");
+        Run y = new Run();
+        y.push(0, "0>1,2>1");
+        y.push(1, "1>1,2>2");
+        y.push(2, "0>1,1>1,2>3");
         Check.due("probes: one key instead of two lower ones", y.probes(15), 4);
-        Check.push(y, 2, "2>2");
+        y.push(2, "2>2");
         Check.due("probes: two lower ones", y.probes(15), 3);
-        Check.push(y, 2, "0>0,2>2,3>0");
+        y.push(2, "0>0,2>2,3>0");
         Check.due("probes: one lower key, of several", y.probes(15), 3);
-        Check.push(y, 0, "3>5");
-        Check.push(y, 1, "3>6");
+        y.push(0, "3>5");
+        y.push(1, "3>6");
         Check.due("probes: the fewest, not the least number", y.probes(15), 8);
     }
 }

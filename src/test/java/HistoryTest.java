@@ -15,10 +15,10 @@ public final class HistoryTest {
     }
 
     private static void undo() {
-        PileMaps x = new PileMaps();
+        Run x = new Run();
         Check.due("undo: empty", x.undo(), NONE);
-        Check.push(x, 0, "0>1");
-        Check.push(x, 0, "0>2");
+        x.push(0, "0>1");
+        x.push(0, "0>2");
         x.setRule(1);
         Check.due("undo: left", x.undo(), 2);
         Check.due("undo: rule", x.count(0), 0);
@@ -35,8 +35,8 @@ public final class HistoryTest {
     }
 
     private static void atMostFour() {
-        PileMaps x = new PileMaps();
-        Check.push(x, 0, "0>0");
+        Run x = new Run();
+        x.push(0, "0>0");
         for (int value = 1; value <= 9; value++) {
             Check.due("set", x.setEntry(0, 0, 0, value), value - 1);
             Check.due("at most four", x.count(5), Math.min(4, value + 1));
@@ -59,23 +59,27 @@ public final class HistoryTest {
         Check.due("undo after acts after undos", x.get(0, 1), 12);
     }
 
-    private static PileMaps filled() {
-        PileMaps x = new PileMaps();
-        Check.push(x, 0, "0>1,1>2,2>0,5>-");
-        Check.push(x, 0, "0>3,7>7");
-        Check.push(x, 1, "3>4");
+    private static void fill(Run x) {
+        x.push(0, "0>1,1>2,2>0,5>-");
+        x.push(0, "0>3,7>7");
+        x.push(1, "3>4");
         x.turn(1, 0, false);
         x.hide(0, 7);
         x.ask(4);
-        Check.write(x, "A=B");
+        x.write("A=B");
+    }
+
+    private static Run filled() {
+        Run x = new Run();
+        fill(x);
         return x;
     }
 
-    private static int act(PileMaps x, int number) {
+    private static int act(Run x, int number) {
         switch (number) {
             case 0:
                 x.clearText();
-                Check.write(x, "0>1");
+                x.write("0>1");
                 return x.push(2);
             case 1: return x.pop(0);
             case 2: return x.turn(0, 1, false);
@@ -92,35 +96,40 @@ public final class HistoryTest {
 
     private static void everyAct() {
         for (int number = 0; number < 11; number++) {
-            PileMaps x = filled();
-            if (number == 10) {
-                x.keep();
-                x.setEntry(0, 0, 9, 9);
-                x.setEntry(0, 0, 9, 8);
-            }
-            String before = Check.whole(x);
-            Check.due("act " + number + " is no error", act(x, number) >= 0);
-            Check.write(x, "A=B");
-            Check.due("act " + number + " changes", !before.equals(Check.whole(x)));
-            Check.due("act " + number + " is recorded", x.undo(), 3);
+            Calls before = number == 10 ? HistoryTest::fillAndKeep : HistoryTest::fill;
+            int which = number;
+            Calls acted = before.then(x -> {
+                Check.due("act " + which + " is no error", act(x, which) >= 0);
+                x.write("A=B");
+            });
+            Calls undone = acted.then(x -> Check.due("act " + which + " is recorded", x.undo(), 3));
             // one state was dropped for the act, and an act that changes nothing else brings the number back
-            Check.write(x, "A=B");
-            x.keep();
-            x.restore();
-            Check.due("act " + number + " is undone", before.equals(Check.whole(x)));
+            Calls filledUp = undone.then(x -> {
+                x.keep();
+                x.restore();
+            });
+            Check.due("act " + which + " changes", !Whole.state(before).equals(Whole.state(acted)));
+            Check.due("act " + which + " is undone", Whole.state(before).equals(Whole.state(filledUp)));
         }
     }
 
-    private static void notTheText() {
-        PileMaps x = new PileMaps();
-        Check.push(x, 0, "0>1");
+    private static void fillAndKeep(Run x) {
+        fill(x);
         x.keep();
-        Check.write(x, "1>1");
+        x.setEntry(0, 0, 9, 9);
+        x.setEntry(0, 0, 9, 8);
+    }
+
+    private static void notTheText() {
+        Run x = new Run();
+        x.push(0, "0>1");
+        x.keep();
+        x.write("1>1");
         x.undo();
         Check.due("undo leaves the text", x.count(6), 3);
         Check.due("undo leaves the text", x.push(0), 1);
         Check.due("undo leaves the text", x.get(0, 1), 1);
-        Check.write(x, "12>12");
+        x.write("12>12");
         Check.due("restore", x.restore(), 1);
         Check.due("restore leaves the text", x.count(6), 5);
         x.push(0);
@@ -128,9 +137,9 @@ public final class HistoryTest {
     }
 
     private static void whatWasKnown() {
-        PileMaps x = new PileMaps();
+        Run x = new Run();
         for (int map = 0; map < 6; map++) {
-            Check.push(x, map, "15>" + map);
+            x.push(map, "15>" + map);
         }
         x.hide(0, 63);
         x.keep();
@@ -150,10 +159,10 @@ public final class HistoryTest {
     }
 
     private static void keep() {
-        PileMaps x = new PileMaps();
+        Run x = new Run();
         Check.due("keep: no layer", x.keep(), 0);
         Check.due("keep: no act", x.count(5), 0);
-        Check.push(x, 0, "0>1");
+        x.push(0, "0>1");
         x.push(0);
         x.push(5);
         Check.due("keep: layers of all maps", x.keep(), 3);
@@ -165,24 +174,25 @@ public final class HistoryTest {
     }
 
     private static void restore() {
-        PileMaps x = filled();
+        Run x = filled();
         Check.due("restore: no snapshot", x.restore(), NONE);
         Check.due("restore: NONE is not recorded", x.undo(), 3);
-        x.ask(4);
-        x.setRule(1);
-        x.keep();
-        String kept = Check.whole(x);
-        x.setRule(2);
-        x.hide(2, 4);
-        x.flatten(0);
-        Check.assign(x, "B=A~");
-        Check.due("restore: layers", x.restore(), 3);
-        Check.write(x, "A=B");
-        Check.due("restore: all of the state", kept.equals(Check.whole(x)));
-        Check.due("restore: it is an act", x.undo(), 3);
-        Check.due("undo of restore: rule", x.count(0), 2);
-        Check.due("undo of restore: hidden", x.hidden(0), 4);
-        PileMaps y = new PileMaps();
+        Calls kept = before -> {
+            fill(before);
+            before.setRule(1);
+            before.keep();
+        };
+        Calls acted = kept.then(HistoryTest::actsThatChangeAll);
+        Calls restored = acted.then(after -> {
+            Check.due("restore: layers", after.restore(), 3);
+            after.write("A=B");
+        });
+        Check.due("restore: all of the state", Whole.state(kept).equals(Whole.state(restored)));
+        Run z = restored.onNew();
+        Check.due("restore: it is an act", z.undo(), 3);
+        Check.due("undo of restore: rule", z.count(0), 2);
+        Check.due("undo of restore: hidden", z.hidden(0), 4);
+        Run y = new Run();
         y.keep();
         Check.due("restore: of what is so already", y.restore(), 0);
         Check.due("restore: is an act also then", y.count(5), 1);
@@ -191,9 +201,16 @@ public final class HistoryTest {
         Check.due("restore: nothing hidden", y.hidden(0), -4);
     }
 
+    private static void actsThatChangeAll(Run x) {
+        x.setRule(2);
+        x.hide(2, 4);
+        x.flatten(0);
+        x.assign("B=A~");
+    }
+
     private static void snapshotStays() {
-        PileMaps x = new PileMaps();
-        Check.push(x, 3, "4>5");
+        Run x = new Run();
+        x.push(3, "4>5");
         x.keep();
         x.setEntry(3, 0, 4, 6);
         x.restore();

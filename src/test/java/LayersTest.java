@@ -22,7 +22,7 @@ public final class LayersTest {
     }
 
     private static void newObject() {
-        PileMaps x = new PileMaps();
+        Run x = new Run();
         for (int map = 0; map < 6; map++) {
             Check.due("new: layers", x.map(map, 0), 0);
             Check.due("new: holes", x.map(map, 2), 65535);
@@ -36,14 +36,14 @@ public final class LayersTest {
         Check.due("new: hidden", x.hidden(0), -4);
         Check.due("new: restore", x.restore(), NONE);
         Check.due("new: undo", x.undo(), NONE);
-        PileMaps other = new PileMaps();
-        Check.push(x, 0, "0>1");
+        Run other = new Run();
+        x.push(0, "0>1");
         Check.due("new: objects do not share", other.map(0, 0), 0);
     }
 
     private static void push() {
-        PileMaps x = new PileMaps();
-        Check.due("push", Check.push(x, 5, "0>15,15>0,10>-,3>4"), 1);
+        Run x = new Run();
+        Check.due("push", x.push(5, "0>15,15>0,10>-,3>4"), 1);
         Check.due("push: text stays", x.count(6), 18);
         Check.due("push: is recorded", x.count(5), 1);
         Check.due("push: value", x.get(5, 0), 15);
@@ -54,14 +54,14 @@ public final class LayersTest {
         Check.due("push: is on", x.layer(5, 0, 1), 1);
         Check.due("push again", x.push(5), 2);
         Check.due("push to another map", x.push(0), 1);
-        Check.due("push: last one counts", Check.push(x, 0, "0>1,0>2,1>3,1>-,2>-,2>5"), 2);
+        Check.due("push: last one counts", x.push(0, "0>1,0>2,1>3,1>-,2>-,2>5"), 2);
         Check.due("push: last one counts", x.get(0, 0), 2);
         Check.due("push: last one counts", x.get(0, 1), NONE);
         Check.due("push: last one counts", x.get(0, 2), 5);
         Check.due("push: upper one shadows with nowhere", x.tells(0, 1), 1);
         Check.due("push: lower one shines through", x.get(0, 3), 4);
         Check.due("push: after a pop, nothing stays of the old layer", x.pop(0), 3);
-        Check.due("push: over a popped one", Check.push(x, 0, "7>7"), 2);
+        Check.due("push: over a popped one", x.push(0, "7>7"), 2);
         Check.due("push: over a popped one", x.entry(0, 1, 0), 17);
         x.turn(0, 1, false);
         x.pop(0);
@@ -77,49 +77,52 @@ public final class LayersTest {
             -1, 1, 3, 1, 5, 3, 0, 2, 1, 3, 3, 0, 4,
             3, 3, 0, 12, -1, 2, 2, 2, 2, -1, 1};
         for (int i = 0; i < texts.length; i++) {
-            PileMaps x = new PileMaps();
+            Run x = new Run();
             int want = faults[i] < 0 ? 1 : -100 - faults[i];
-            Check.due("push '" + texts[i] + "'", Check.push(x, 0, texts[i]), want);
+            Check.due("push '" + texts[i] + "'", x.push(0, texts[i]), want);
             Check.due("push '" + texts[i] + "': recorded", x.count(5), faults[i] < 0 ? 1 : 0);
             Check.due("push '" + texts[i] + "': layers", x.count(1), faults[i] < 0 ? 1 : 0);
         }
-        PileMaps x = new PileMaps();
+        Run x = new Run();
         StringBuilder longest = new StringBuilder();
         for (int i = 0; i < 14; i++) {
             longest.append("1>2,");
         }
-        Check.due("push: 60 characters", Check.push(x, 0, longest + "5>-0"), -159);
-        Check.due("push: 60 characters", Check.push(x, 0, longest + "15>-"), 1);
-        Check.due("push: 60 characters, ends too early", Check.push(x, 0, longest + "5>1,"), -160);
+        Check.due("push: 60 characters", x.push(0, longest + "5>-0"), -159);
+        Check.due("push: 60 characters", x.push(0, longest + "15>-"), 1);
+        Check.due("push: 60 characters, ends too early", x.push(0, longest + "5>1,"), -160);
     }
 
     private static void pushFull() {
-        PileMaps x = new PileMaps();
-        Check.write(x, "0>1");
-        Check.due("push 1", x.push(3), 1);
-        Check.due("push 2", x.push(3), 2);
-        Check.due("push 3", x.push(3), 3);
-        Check.due("push 4", x.push(3), 4);
-        x.keep();
-        x.restore();
-        String before = Check.whole(x);
-        Check.due("push 5", x.push(3), FULL);
-        Check.due("push: unknown map", x.push(6), UNKNOWN);
-        Check.due("push: unknown map", x.push(-1), UNKNOWN);
-        Check.due("push: errors change nothing", before.equals(Check.whole(x)));
-        Check.write(x, "0>");
+        Calls full = LayersTest::fillMapD;
+        Check.nothingChanged("push: errors", full, x -> {
+            Check.due("push 5", x.push(3), FULL);
+            Check.due("push: unknown map", x.push(6), UNKNOWN);
+            Check.due("push: unknown map", x.push(-1), UNKNOWN);
+        });
+        Run x = full.onNew();
+        x.write("0>");
         Check.due("push: fault before full", x.push(3), -102);
         Check.due("push: unknown before fault", x.push(6), UNKNOWN);
     }
 
+    private static void fillMapD(Run x) {
+        x.write("0>1");
+        for (int layers = 1; layers <= 4; layers++) {
+            Check.due("push " + layers, x.push(3), layers);
+        }
+        x.keep();
+        x.restore();
+    }
+
     private static void pop() {
-        PileMaps x = new PileMaps();
+        Run x = new Run();
         Check.due("pop: empty", x.pop(0), NONE);
         Check.due("pop: unknown", x.pop(6), UNKNOWN);
         Check.due("pop: unknown", x.pop(-1), UNKNOWN);
         Check.due("pop: changes nothing", x.count(5), 0);
-        Check.push(x, 0, "0>1,1>2,2>-");
-        Check.push(x, 0, "0>-,5>5");
+        x.push(0, "0>1,1>2,2>-");
+        x.push(0, "0>-,5>5");
         x.turn(0, 1, false);
         Check.due("pop: recorded before", x.count(5), 3);
         Check.due("pop: entries, also of a layer that is off", x.pop(0), 2);
@@ -132,9 +135,9 @@ public final class LayersTest {
     }
 
     private static void turn() {
-        PileMaps x = new PileMaps();
-        Check.push(x, 0, "0>1,1>2,2>3,4>4");
-        Check.push(x, 0, "0>1,1>-,2>4,3>5,5>-");
+        Run x = new Run();
+        x.push(0, "0>1,1>2,2>3,4>4");
+        x.push(0, "0>1,1>-,2>4,3>5,5>-");
         Check.due("turn: on already", x.turn(0, 1, true), NONE);
         Check.due("turn: NONE is not recorded", x.count(5), 2);
         Check.due("turn off: 1, 2, 3 change", x.turn(0, 1, false), 3);
@@ -150,18 +153,18 @@ public final class LayersTest {
         Check.due("turn: unknown layer of an empty map", x.turn(1, 0, true), UNKNOWN);
         Check.due("turn: unknown map", x.turn(6, 0, false), UNKNOWN);
         Check.due("turn: unknown map", x.turn(-1, 0, false), UNKNOWN);
-        PileMaps y = new PileMaps();
-        Check.push(y, 2, "0>1");
-        Check.push(y, 2, "0>1");
+        Run y = new Run();
+        y.push(2, "0>1");
+        y.push(2, "0>1");
         Check.due("turn: changes no value", y.turn(2, 0, false), 0);
         Check.due("turn: also without a change recorded", y.count(5), 3);
     }
 
     private static void lift() {
-        PileMaps x = new PileMaps();
-        Check.push(x, 0, "0>1,1>1");
-        Check.push(x, 0, "0>2,2>-");
-        Check.push(x, 0, "0>3,2>4,3>3");
+        Run x = new Run();
+        x.push(0, "0>1,1>1");
+        x.push(0, "0>2,2>-");
+        x.push(0, "0>3,2>4,3>3");
         Check.due("lift: is there", x.lift(0, 1, 1), NONE);
         Check.due("lift: no such place", x.lift(0, 1, 3), BAD_VALUE);
         Check.due("lift: no such place", x.lift(0, 1, -1), BAD_VALUE);
@@ -185,9 +188,9 @@ public final class LayersTest {
         Check.due("lift to the top: 0 and 2 change", x.lift(0, 0, 2), 2);
         Check.due("lift: value", x.get(0, 0), 3);
         Check.due("lift: value", x.get(0, 2), 4);
-        PileMaps y = new PileMaps();
-        Check.push(y, 1, "0>1");
-        Check.push(y, 1, "0>1");
+        Run y = new Run();
+        y.push(1, "0>1");
+        y.push(1, "0>1");
         Check.due("lift: changes no value", y.lift(1, 0, 1), 0);
         Check.due("lift: also without a change recorded", y.count(5), 3);
     }
@@ -195,9 +198,9 @@ public final class LayersTest {
     private static void liftEachWay() {
         for (int layer = 0; layer < 4; layer++) {
             for (int place = 0; place < 4; place++) {
-                PileMaps x = new PileMaps();
+                Run x = new Run();
                 for (int i = 0; i < 4; i++) {
-                    Check.push(x, 4, "0>" + i);
+                    x.push(4, "0>" + i);
                 }
                 x.turn(4, layer, false);
                 int want = layer == place ? NONE : 0;
@@ -230,8 +233,8 @@ public final class LayersTest {
     }
 
     private static void setEntry() {
-        PileMaps x = new PileMaps();
-        Check.push(x, 0, "0>1,1>-");
+        Run x = new Run();
+        x.push(0, "0>1,1>-");
         Check.due("setEntry: is so", x.setEntry(0, 0, 0, 1), NONE);
         Check.due("setEntry: is so", x.setEntry(0, 0, 1, 16), NONE);
         Check.due("setEntry: is so", x.setEntry(0, 0, 2, 17), NONE);
@@ -263,14 +266,14 @@ public final class LayersTest {
     }
 
     private static void flatten() {
-        PileMaps x = new PileMaps();
+        Run x = new Run();
         Check.due("flatten: no layer", x.flatten(0), NONE);
         Check.due("flatten: unknown", x.flatten(6), UNKNOWN);
         Check.due("flatten: unknown", x.flatten(-1), UNKNOWN);
-        Check.push(x, 0, "0>1,5>5");
+        x.push(0, "0>1,5>5");
         Check.due("flatten: one layer", x.flatten(0), NONE);
         Check.due("flatten: nothing is recorded", x.count(5), 1);
-        Check.push(x, 0, "0>-,2>3");
+        x.push(0, "0>-,2>3");
         Check.due("flatten: two layers", x.flatten(0), 2);
         Check.due("flatten: recorded", x.count(5), 3);
         Check.due("flatten: one layer then", x.map(0, 0), 1);
@@ -283,21 +286,21 @@ public final class LayersTest {
         Check.due("flatten: it is on then", x.layer(0, 0, 1), 1);
         Check.due("flatten: it is empty", x.layer(0, 0, 0), 0);
         Check.due("flatten: empty layer is flat", x.flatten(0), NONE);
-        Check.push(x, 1, "0>1,1>-");
+        x.push(1, "0>1,1>-");
         Check.due("flatten: an entry that leads nowhere", x.flatten(1), 1);
         Check.due("flatten: it is gone", x.entry(1, 0, 1), 17);
-        Check.push(x, 2, "0>1");
-        Check.push(x, 2, "0>1");
+        x.push(2, "0>1");
+        x.push(2, "0>1");
         Check.due("flatten: two the same", x.flatten(2), 1);
     }
 
     private static void assign() {
-        PileMaps x = new PileMaps();
-        Check.push(x, 0, "0>1,1>2,2>-");
-        Check.push(x, 1, "1>5,2>6");
-        Check.push(x, 1, "9>9");
+        Run x = new Run();
+        x.push(0, "0>1,1>2,2>-");
+        x.push(1, "1>5,2>6");
+        x.push(1, "9>9");
         x.turn(1, 1, false);
-        Check.due("assign", Check.assign(x, "B=A.B"), 2);
+        Check.due("assign", x.assign("B=A.B"), 2);
         Check.due("assign: text stays", x.count(6), 5);
         Check.due("assign: one layer", x.map(1, 0), 1);
         Check.due("assign: it is on", x.layer(1, 0, 1), 1);
@@ -308,27 +311,28 @@ public final class LayersTest {
         Check.due("assign again: value", x.get(1, 0), 6);
         Check.due("assign a third time", x.assign(), 0);
         Check.due("assign: a layer also if none has a value", x.map(1, 0), 1);
-        Check.due("assign: values as they were before", Check.assign(x, "A=A~"), 2);
+        Check.due("assign: values as they were before", x.assign("A=A~"), 2);
         Check.due("assign: values as they were before", x.get(0, 1), 0);
-        Check.due("assign: the same once more is an act", Check.assign(x, "F=F"), 0);
+        Check.due("assign: the same once more is an act", x.assign("F=F"), 0);
         Check.due("assign: layer", x.map(5, 0), 1);
-        x.keep();
-        x.restore();
-        String before = Check.whole(x);
-        Check.due("assign: empty text", Check.assign(x, ""), -100);
-        Check.due("assign: a layer is no expression", Check.assign(x, "0>1"), -100);
-        Check.due("assign: fault", Check.assign(x, "A=A "), -103);
-        x.clearText();
-        Check.write(x, "F=F");
-        Check.due("assign: fault changes nothing", before.equals(Check.whole(x)));
-        PileMaps y = new PileMaps();
-        Check.assign(y, "C=C");
+        Calls before = z -> {
+            z.push(5, "0>1,15>-");
+            z.write("F=F");
+        };
+        Check.nothingChanged("assign: faults", before, z -> {
+            Check.due("assign: empty text", z.assign(""), -100);
+            Check.due("assign: a layer is no expression", z.assign("0>1"), -100);
+            Check.due("assign: fault", z.assign("A=A "), -103);
+            z.write("F=F");
+        });
+        Run y = new Run();
+        y.assign("C=C");
         y.assign();
         Check.due("assign: recorded each time, also without a change", y.count(5), 2);
     }
 
     private static void setRule() {
-        PileMaps x = new PileMaps();
+        Run x = new Run();
         Check.due("setRule: is so", x.setRule(0), NONE);
         Check.due("setRule: bad", x.setRule(3), BAD_VALUE);
         Check.due("setRule: bad", x.setRule(-1), BAD_VALUE);

@@ -1,14 +1,12 @@
 /** All promises: long runs of calls, each answer compared with that of the model. */
 public final class ModelTest {
     private static final int RUNS = 3000;
-    private static final int CALLS = 512;
 
     private static long seed = 20261118;
 
-    private PileMaps x;
+    private Run x;
     private Model y;
     private int run;
-    private int calls;
     /** How often each method has answered no error, so that a run that reaches nothing is seen. */
     private static final int[] reached = new int[28];
 
@@ -23,14 +21,13 @@ public final class ModelTest {
     }
 
     private void play(int number) {
-        x = new PileMaps();
+        x = new Run();
         y = new Model();
         run = number;
-        calls = 0;
         if (below(4) > 0) {
             fill();
         }
-        while (calls < CALLS) {
+        while (x.callsLeft() > 0) {
             int kind = below(40);
             if (kind < 2) {
                 typeText();
@@ -146,7 +143,7 @@ public final class ModelTest {
         boolean spoil = below(3) == 0;
         write(spoil ? spoilt(text) : text);
         if (below(20) == 0) {
-            compare("type", x.type('~'), y.type('~'), 10);
+            call(10, '~', 0, 0, 0);
         }
         if (layer) {
             call(0, below(6), 0, 0, 0);
@@ -157,9 +154,9 @@ public final class ModelTest {
     }
 
     private void write(String text) {
-        compare("clearText", x.clearText(), y.clearText(), 11);
+        call(11, 0, 0, 0, 0);
         for (int i = 0; i < text.length(); i++) {
-            compare("type " + text, x.type(text.charAt(i)), y.type(text.charAt(i)), 10);
+            call(10, text.charAt(i), 0, 0, 0);
         }
     }
 
@@ -222,13 +219,14 @@ public final class ModelTest {
     }
 
     private void call(int method, int a, int b, int c, int d) {
-        String what = "run " + run + ", call " + calls + ", method " + method + " (" + a + ", " + b + ", " + c + ", " + d + ")";
-        compare(what, ofProgram(method, a, b, c, d), ofModel(method, a, b, c, d), method);
-    }
-
-    private void compare(String what, int got, int want, int method) {
-        calls++;
-        Check.due(what, got, want);
+        int left = x.callsLeft();
+        if (left == 0) {
+            return;
+        }
+        String what = "run " + run + ", " + left + " calls before its end, method " + method
+            + " (" + a + ", " + b + ", " + c + ", " + d + ")";
+        int want = ofModel(method, a, b, c, d);
+        Check.due(what, ofProgram(method, a, b, c, d), want);
         if (want >= 0) {
             reached[method]++;
         }
@@ -246,6 +244,8 @@ public final class ModelTest {
             case 7: return x.setRule(a);
             case 8: return x.hide(a, b);
             case 9: return x.ask(a);
+            case 10: return x.type((char) a);
+            case 11: return x.clearText();
             case 12: return x.undo();
             case 13: return x.keep();
             case 14: return x.restore();
@@ -277,6 +277,8 @@ public final class ModelTest {
             case 7: return y.setRule(a);
             case 8: return y.hide(a, b);
             case 9: return y.ask(a);
+            case 10: return y.type((char) a);
+            case 11: return y.clearText();
             case 12: return y.undo();
             case 13: return y.keep();
             case 14: return y.restore();
