@@ -398,7 +398,7 @@ public final class PileMaps {
     }
 
     private boolean isLayer(int map, int layer) {
-        return isMap(map) && layer >= 0 && layer < now.piles[map].height;
+        return isMap(map) && layer >= 0 && layer < LAYERS && layer < now.piles[map].height;
     }
 
     private static int orNone(int value) {

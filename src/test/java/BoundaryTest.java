@@ -16,6 +16,9 @@ public final class BoundaryTest {
 
     public static void main(String[] args) throws Exception {
         Document document = new Document();
+        if (Document.isMissing()) {
+            System.out.println("BoundaryTest: no document here, so its words are not compared with those of the tests");
+        }
         List<Method> tests = tests(document);
         for (Method test : tests) {
             Sentence sentence = test.getAnnotation(Sentence.class);
@@ -44,14 +47,35 @@ public final class BoundaryTest {
         return all;
     }
 
-    private static void run(Method test, Sentence sentence) throws Exception {
-        int asked = Check.asked();
+    /** For src/mutants: all tests by their names. */
+    static List<String> names() throws Exception {
+        return tests(new Document()).stream().map(Method::getName).toList();
+    }
+
+    /** For src/mutants: whether one test passes. */
+    static boolean passes(String name) throws Exception {
         int wrong = Check.wrong();
+        for (Method test : tests(new Document())) {
+            if (test.getName().equals(name)) {
+                call(test);
+                return Check.wrong() == wrong;
+            }
+        }
+        throw new IllegalArgumentException("no test " + name);
+    }
+
+    private static void call(Method test) throws IllegalAccessException {
         try {
             test.invoke(null);
         } catch (InvocationTargetException e) {
             Check.due(test.getName() + " threw " + e.getCause(), false);
         }
+    }
+
+    private static void run(Method test, Sentence sentence) throws Exception {
+        int asked = Check.asked();
+        int wrong = Check.wrong();
+        call(test);
         String result = Check.wrong() == wrong ? "ok" : "FAILED";
         System.out.println(result + " | " + sentence.of() + " | " + sentence.says()
             + " | " + test.getName() + ", " + (Check.asked() - asked) + " answers");

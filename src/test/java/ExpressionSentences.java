@@ -104,6 +104,10 @@ final class ExpressionSentences extends Sentences {
         faulty("(A)(B)", 5);
         faulty("(A)B", 5);
         values("A=(D/A).B", 0, 8, 2, 9, 15, 15);
+        values("A=(A.B)", 0, 8, 2, 9, 15, 15);
+        values("A=B.(A/C)", 0, 7, 1, 0, 14, 14);
+        values("A=B.(A/(C.(B/(A.A))))", 1, 9, 14, 14);
+        values("A=((((A.A)/B).C)/C).A/C", 3, 7, 4, 7, 8, 1, 9, 7, 14, 14, 15, 14);
     }
 
     @Sentence(of = EXPRESSIONS, says = "and then any number of signs behind it:")
@@ -332,6 +336,10 @@ final class ExpressionSentences extends Sentences {
         values("A=D^1");
         values("A=D^9");
         values("A=C^2", 15, 15);
+        // a step that leads to a hole is made; the one behind it would meet the hole
+        values("A=A{0,1}^1", 0, 1, 1, 2);
+        values("A=A{0,1}^2", 0, 2);
+        values("A=A{0,1}^3");
     }
 
     @Sentence(of = EXPRESSIONS, says = "\"x{..}\": the value of a key is that in x if it is one of the keys that are told,")
@@ -413,6 +421,8 @@ final class ExpressionSentences extends Sentences {
         layerFault(",0>1", 0);
         layerFault("0>1;1>2", 3);
         layerFault("0>11>2", 4);
+        layerFault("0>23>4", 3);
+        layerFault("0>-1>2", 3);
         Run x = new Run();
         due("one entry", x.push(0, "0>1") + x.layer(0, 0, 0), 1 + 1);
         due("as many as the text has room for", x.push(0, "0>1,1>2,2>3,3>4,4>5,5>6,6>7,7>8,8>9,9>0,10>0,11>0,12>0,13>0"), 2);
@@ -520,6 +530,10 @@ final class ExpressionSentences extends Sentences {
         }
         faultless(whole.substring(2));
         faultless(whole.substring(2, whole.length() - 1));
+        for (String text : new String[] {"A=B^", "A=B~^", "A=B{", "A=B{1", "A=B{15", "A=B{1,", "A=B/", "A=B.", "A=(",
+            "A=(B", "A=(B~", "A=(B^1", "A=(B{1}"}) {
+            due("the end of " + text, new Run().gives(text, 0), fault(text.length()));
+        }
         layerFault("1", 1);
         layerFault("10", 2);
         layerFault("10>", 3);

@@ -144,6 +144,10 @@ final class FollowSentences extends Sentences {
         Run y = one("0>1,1>2,2>3,3>1");
         due("1000000 steps by a way to a cycle of three", y.after(0, 0, 1000000), 1 + 999999 % 3);
         due("999999 steps", y.after(0, 0, 999999), 1 + 999998 % 3);
+        Run z = one("0>0,15>15,14>15");
+        due("1000000 steps on the spot, the first key", z.after(0, 0, 1000000), 0);
+        due("1000000 steps on the spot, the last key", z.after(0, 15, 1000000), 15);
+        due("1000000 steps to the spot", z.after(0, 14, 1000000), 15);
     }
 
     @Sentence(of = AFTER, says = "Returns the key to which the map leads in so many steps;")
@@ -153,6 +157,9 @@ final class FollowSentences extends Sentences {
         for (int steps = 0; steps <= 80; steps++) {
             due(steps + " steps by a way to a cycle of six", x.after(1, 0, steps),
                 steps < 16 ? steps : 10 + (steps - 10) % 6);
+        }
+        for (int steps = 0; steps <= 40; steps++) {
+            due(steps + " steps on the spot", one("0>0").after(0, 0, steps), 0);
         }
         Run y = CYCLE.onNew();
         for (int steps = 0; steps <= 80; steps++) {

@@ -111,7 +111,11 @@ final class HistoryTermSentences extends Sentences {
 
     @Sentence(of = HISTORY, says = "A state is everything")
     static void aStateIsEverything() {
-        Calls base = Sentences::withRoom;
+        Calls base = x -> {
+            withRoom(x);
+            x.setEntry(0, 0, 15, 13);
+            x.keep();
+        };
         Call[] changes = {x -> x.turn(0, 1, true), x -> x.turn(0, 0, false), x -> x.setEntry(0, 0, 0, 15),
             x -> x.setEntry(0, 1, 15, 3), x -> x.setEntry(5, 0, 3, NOWHERE), x -> x.setRule(2), x -> x.ask(0),
             x -> x.ask(15), x -> x.pop(5), x -> x.pop(0), x -> x.flatten(0), x -> x.lift(0, 1, 0), Run::assign,
@@ -327,7 +331,7 @@ final class HistoryTermSentences extends Sentences {
         };
         Check.nothingChanged("assign: fault", faulty, x -> due("assign", x.assign(), fault(5)));
         Check.nothingChanged("gives: fault", faulty, x -> due("gives", x.gives(0), fault(5)));
-        Calls empty = x -> x.write("A".repeat(60));
+        Calls empty = x -> x.write("A=B^0" + "~".repeat(55));
         Check.nothingChanged("undo: no state", empty, x -> due("undo", x.undo(), NONE));
         Check.nothingChanged("restore: no snapshot", empty, x -> due("restore", x.restore(), NONE));
         Check.nothingChanged("ask: nothing hidden", empty, x -> due("ask", x.ask(0), NOT_POSSIBLE));

@@ -272,7 +272,8 @@ final class MapSentences extends Sentences {
     static void mapTellsTheLongestCycle() {
         due("no value", new Run().map(0, 8), 0);
         due("no cycle", one("0>1,1>2,15>0").map(0, 8), 0);
-        due("one by itself", one("15>15,14>15,13>14").map(0, 8), 1);
+        due("the last key by itself", one("15>15,14>15,13>14").map(0, 8), 1);
+        due("the first key by itself", one("0>0,1>0").map(0, 8), 1);
         due("the longer one behind", one("0>0,1>2,2>1,13>14,14>15,15>13").map(0, 8), 3);
         due("the longer one ahead", one("0>1,1>2,2>0,14>15,15>14,13>13").map(0, 8), 3);
         Calls cycle = Sentences::wholeCycle;

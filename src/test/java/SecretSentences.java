@@ -436,6 +436,7 @@ final class SecretSentences extends Sentences {
         due("the holes are the greatest one", hidden(0, 31).split(1, 1), 3);
         due("the hidden map is not in the greatest one", hidden(1, 1 + 2 + 4).split(0, 1), 2);
         due("it is the last one", hidden(0, 1 + 2 + 32).split(0, 1), 2);
+        due("it is the first one", hidden(5, 1 + 4 + 32).split(0, 1), 2);
     }
 
     @Sentence(of = SPLIT, says = "Returns the number; UNKNOWN;")

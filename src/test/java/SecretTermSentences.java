@@ -41,6 +41,17 @@ final class SecretTermSentences extends Sentences {
 
     @Sentence(of = ASKING, says = "What the values of all maps are then stays known by itself, whatever becomes of the maps.")
     static void theValuesStayKnown() {
+        int[] values = {0, 1, 0, NOWHERE, NOWHERE, 5};
+        int[] left = {1 + 4, 2, 1 + 4, 8 + 16, 8 + 16, 32};
+        for (int map = 0; map < 6; map++) {
+            Run y = sixMaps();
+            y.hide(map, 63);
+            for (char letter = 'A'; letter <= 'F'; letter++) {
+                y.assign(letter + "=A^0");
+            }
+            due("the value as it was, of " + map, y.ask(15), values[map]);
+            due("the suspects as they were, of " + map, y.hidden(0), left[map]);
+        }
         Run x = sixMaps();
         x.hide(0, 63);
         for (int map = 0; map < 6; map++) {
