@@ -16,8 +16,8 @@ final class ExpressionSentences extends Sentences {
         Run x = new Run();
         x.write("A=" + expression);
         int value = x.gives(0);
-        due("no fault of A=" + expression, value == 0 || value == NONE ? 1 : 0, 1);
-        due("no fault of A=" + expression, x.assign() >= 0 ? 1 : 0, 1);
+        due("no fault of A=" + expression, value == 0 || value == NONE);
+        due("no fault of A=" + expression, x.assign() >= 0);
     }
 
     private static void threeMaps(Run x) {
@@ -37,7 +37,7 @@ final class ExpressionSentences extends Sentences {
             Check.nothingChanged(text, maps.then(x -> x.write(text)), x -> {
                 for (int key = 0; key < 16; key++) {
                     int value = x.gives(key);
-                    due("a value or a hole", value >= 0 && value <= 15 || value == NONE ? 1 : 0, 1);
+                    due("a value or a hole", value >= 0 && value <= 15 || value == NONE);
                 }
             });
         }

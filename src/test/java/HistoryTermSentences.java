@@ -71,7 +71,7 @@ final class HistoryTermSentences extends Sentences {
             x -> x.hide(3, 8), Run::restore};
         for (int i = 0; i < acts.length; i++) {
             Run x = base.onNew();
-            due("act " + i + " answers no error", acts[i].on(x) >= 0 ? 1 : 0, 1);
+            due("act " + i + " answers no error", acts[i].on(x) >= 0);
             due("act " + i + " is recorded", x.count(5), 3);
         }
         Call[] others = {x -> x.type('A'), Run::clearText, Run::keep, x -> x.get(0, 0), x -> x.tells(0, 0),
@@ -79,7 +79,7 @@ final class HistoryTermSentences extends Sentences {
             x -> x.after(0, 0, 1), x -> x.gives(0), x -> x.differ(0, 1), x -> x.probes(63), x -> x.count(5)};
         for (int i = 0; i < others.length; i++) {
             Run x = base.onNew();
-            due("no act, number " + i + ", answers no error", others[i].on(x) >= 0 ? 1 : 0, 1);
+            due("no act, number " + i + ", answers no error", others[i].on(x) >= 0);
             due("no act, number " + i + ", is not recorded", x.count(5), 2);
         }
         Call[] refusals = {x -> x.push(0, "0>"), x -> x.push(6, "0>1"), x -> x.pop(5), x -> x.turn(0, 0, true),
@@ -88,7 +88,7 @@ final class HistoryTermSentences extends Sentences {
             x -> x.setRule(3), x -> x.hide(0, 2), x -> x.ask(0), x -> x.ask(16)};
         for (int i = 0; i < refusals.length; i++) {
             Run x = base.onNew();
-            due("refusal " + i + " answers an error or NONE", refusals[i].on(x) < 0 ? 1 : 0, 1);
+            due("refusal " + i + " answers an error or NONE", refusals[i].on(x) < 0);
             due("refusal " + i + " is not recorded", x.count(5), 2);
         }
     }
@@ -125,12 +125,12 @@ final class HistoryTermSentences extends Sentences {
         for (int i = 0; i < changes.length; i++) {
             Call change = changes[i];
             Calls changed = base.then(x -> {
-                due("a change is no error", change.on(x) >= 0 ? 1 : 0, 1);
+                due("a change is no error", change.on(x) >= 0);
                 x.write("D=A~/B");
             });
-            due("it is a change", Whole.state(changed).equals(before) ? 1 : 0, 0);
-            due("undo after change " + i, Whole.state(changed.then(Run::undo)).equals(before) ? 1 : 0, 1);
-            due("restore after change " + i, Whole.state(changed.then(Run::restore)).equals(twiceRestored) ? 1 : 0, 1);
+            due("it is a change", !Whole.state(changed).equals(before));
+            due("undo after change " + i, Whole.state(changed.then(Run::undo)).equals(before));
+            due("restore after change " + i, Whole.state(changed.then(Run::restore)).equals(twiceRestored));
         }
     }
 
@@ -323,7 +323,7 @@ final class HistoryTermSentences extends Sentences {
         for (int i = 0; i < REFUSALS.length; i++) {
             Call refusal = REFUSALS[i];
             String what = "refusal " + i;
-            Check.nothingChanged(what, Sentences::filled, x -> due(what, refusal.on(x) < 0 ? 1 : 0, 1));
+            Check.nothingChanged(what, Sentences::filled, x -> due(what, refusal.on(x) < 0));
         }
         Calls faulty = x -> {
             filled(x);

@@ -7,8 +7,6 @@ final class LayerSentences extends Sentences {
     private static final String LIFT = "Promise 5: lift";
     private static final String SET = "Promise 6: setEntry";
 
-    private static final int[] NO_LAYERS = {-1, 3, 4, Integer.MIN_VALUE, Integer.MAX_VALUE, 256, 65536};
-
     @Sentence(of = NEW, says = "Creates six empty maps.")
     static void sixEmptyMaps() {
         Run old = new Run();

@@ -6,8 +6,6 @@ final class MapSentences extends Sentences {
     private static final String LAYER = "Promise 20: layer";
     private static final String ENTRY = "Promise 21: entry";
 
-    private static final int[] NO_LAYERS = {-1, 3, 4, Integer.MIN_VALUE, Integer.MAX_VALUE, 256, 65536};
-
     /** Each map leads the key 0 to its own number, and the key 15 to 15 less its number. */
     private static Run numbered() {
         Run x = new Run();

@@ -10,8 +10,9 @@ abstract class Sentences {
     static final int ABSENT = 17;
     static final int ALL_KEYS = 65535;
 
-    /** One too small, one too large, and what a wrap-around would bring back. */
+    /** One too small, one too large, and what a wrap-around would bring back; the layers are those of three. */
     static final int[] NO_MAPS = {-1, 6, Integer.MIN_VALUE, Integer.MAX_VALUE, 256, 65536};
+    static final int[] NO_LAYERS = {-1, 3, 4, Integer.MIN_VALUE, Integer.MAX_VALUE, 256, 65536};
     static final int[] NO_KEYS = {-1, 16, Integer.MIN_VALUE, Integer.MAX_VALUE, 32, 65536};
 
     /** A call that is asked for its answer. */
@@ -27,6 +28,10 @@ abstract class Sentences {
         Check.due(what, got, want);
     }
 
+    static void due(String what, boolean is) {
+        Check.due(what, is);
+    }
+
     /** The call answers so, and changes nothing. */
     static void refused(String what, int want, Calls before, Call call) {
         Check.nothingChanged(what, before, x -> due(what, call.on(x), want));
@@ -35,11 +40,11 @@ abstract class Sentences {
     /** The call answers so, counts one state more in the history, and undo() makes all as it was before. */
     static void recorded(String what, int want, Calls before, Call call) {
         int states = before.onNew().count(5);
-        due(what + ": there is room in the history", states < 4 ? 1 : 0, 1);
+        due(what + ": there is room in the history", states < 4);
         Calls after = before.then(x -> due(what, call.on(x), want));
         due(what + ": states in the history", after.onNew().count(5), states + 1);
         Calls undone = after.then(x -> due(what + ": undone", x.undo(), states));
-        due(what + ": all is as before", Whole.of(before).equals(Whole.of(undone)) ? 1 : 0, 1);
+        due(what + ": all is as before", Whole.of(before).equals(Whole.of(undone)));
     }
 
     /** Map B leads from each key to the next one, and from the last to the first. */

@@ -121,7 +121,7 @@ final class TextSentences extends Sentences {
             y.setEntry(0, 0, 15, 1);
             y.undo();
         });
-        due("nothing is left of an act", Whole.of(before).equals(Whole.of(redone)) ? 1 : 0, 1);
+        due("nothing is left of an act", Whole.of(before).equals(Whole.of(redone)));
     }
 
     @Sentence(of = UNDO, says = "Returns the number of states that are left;")
@@ -171,7 +171,7 @@ final class TextSentences extends Sentences {
             x.ask(1);
         });
         due("restore, then an undone act", Whole.state(kept.then(Run::restore).then(x -> x.ask(0)).then(Run::undo))
-            .equals(want) ? 1 : 0, 1);
+            .equals(want));
         due("what is done later is not in the snapshot", kept.then(x -> {
             x.restore();
             x.setEntry(0, 0, 0, 9);
