@@ -8,7 +8,8 @@ import java.util.regex.Pattern;
 
 /** README.md: each call of its example answers what stands behind it, and it names each call that there is. */
 public final class ReadmeTest {
-    private static final Pattern TYPED = Pattern.compile("for \\(char c : \"(.*)\"\\.toCharArray\\(\\)\\) x\\.type\\(c\\);");
+    private static final Pattern TYPED =
+        Pattern.compile("for \\(char c : \"(.*)\"\\.toCharArray\\(\\)\\) x\\.type\\(c\\);");
     private static final Pattern CALL = Pattern.compile("x\\.(\\w+)\\((.*)\\); +// (-?\\d+)(:.*)?");
 
     public static void main(String[] args) throws Exception {
@@ -33,7 +34,8 @@ public final class ReadmeTest {
                 }
             } else if (call.matches()) {
                 calls++;
-                Check.due("README.md: " + line, answer(x, call.group(1), call.group(2)), Integer.parseInt(call.group(3)));
+                int due = Integer.parseInt(call.group(3));
+                Check.due("README.md: " + line, answer(x, call.group(1), call.group(2)), due);
             } else {
                 Check.due("README.md: is a call with its answer: " + line, line.startsWith("//"));
             }

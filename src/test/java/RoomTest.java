@@ -32,8 +32,10 @@ public final class RoomTest {
         Check.due("and has no fault", reader.assign() >= 0);
         RoomTest fresh = new RoomTest();
         fresh.count(new PileMaps());
-        Check.due("objects of as many new ones as a run has calls: " + fresh.objects, CALLS * fresh.objects <= MOST_OBJECTS);
-        Check.due("and their elements: " + fresh.elements, CALLS * fresh.elements <= MOST_ELEMENTS);
+        boolean objectsFit = CALLS * fresh.objects <= MOST_OBJECTS;
+        Check.due("a new one for each call of a run, objects of each: " + fresh.objects, objectsFit);
+        boolean elementsFit = CALLS * fresh.elements <= MOST_ELEMENTS;
+        Check.due("a new one for each call of a run, elements of each: " + fresh.elements, elementsFit);
         PileMaps used = new PileMaps();
         run(used, 0);
         RoomTest after = new RoomTest();
